@@ -391,8 +391,25 @@ public final class PromisesTest {
         x.van(0, 1, open(900, 501));
         due(x.route(2, 1, -2), -4);
         due(x.route(2, 1, 9), -4);
+        lastMinute();
         tieByLastArrival();
         fiveCourts();
+    }
+
+    /** The last minute is open, at the PLACE and at the COURT. */
+    private static void lastMinute() {
+        x = new CourtVans();
+        x.place(0, 5, 1, open(0, 420));
+        x.place(1, 1, 1, open(0, 480));
+        x.person(0, 0, 1, due2(1, 480));
+        x.van(0, 1, open(60, 420));
+        x.van(0, 1, open(60, 421));
+        due(x.route(0, 1, -1), 0);
+        due(x.route(1, 1, -1), -4);
+        x.road(0, 1, 59);
+        due(x.route(1, 1, -1), -4);
+        x.road(0, 1, 61);
+        due(x.route(0, 1, -1), -4);
     }
 
     private static void tieByLastArrival() {
@@ -542,9 +559,16 @@ public final class PromisesTest {
         for (int i = 3; i < 8; i++) {
             x.person(0, 0, 1, due2(10, 600));
         }
-        due(Integer.bitCount(x.less(0)), 5);
+        // three of eight can ride, of whom 0 can't be with 1 or 2: the greatest ones ride
+        due(x.less(0), 31);
         x.person(0, 0, 1, due2(10, 600));
         due(x.less(0), -2);
+        x = new CourtVans();
+        men(1);
+        x.place(1, 1, 1, open(0, 100));
+        x.person(0, 0, 4, due2(10, 600));
+        x.van(0, 2, open(300, 420));
+        due(x.less(0), 2);
     }
 
     static void p21() {
@@ -947,6 +971,16 @@ public final class PromisesTest {
         due(text("by van over 1 pays 1 each 000;"), -126);
         due(text("by van over 1 pays 1 each 1"), -127);
         due(text("by van over 1 pays 1 each 1 or"), -128);
+        due(text("xree 1;"), -100);
+        due(text("zy van over 1 pays 1 each 1;"), -100);
+        due(text("by vanz over 1 pays 1 each 1;"), -103);
+        due(text("by van oz"), -107);
+        due(text("by van oa jail"), -107);
+        due(text("free 1/"), -106);
+        due(text("free 1:"), -106);
+        due(text("free 1`"), -106);
+        due(text("free 1{"), -106);
+        due(text("free 9;free 0;most 999;"), 3);
         due(text("by vanjail over 1 pays 1 each 1;"), -103);
         due(text("most 1;most 1;most 1;most 1;most 1;most 1;most 1;most 1; most 1;"), -157);
         due(text("most 1;most 1;most 1;most 1;most 1;most 1;most 1;most 1; x"), -157);
