@@ -3,14 +3,13 @@ import java.lang.annotation.Retention;
 import java.lang.annotation.RetentionPolicy;
 import java.lang.annotation.Target;
 import java.lang.reflect.Method;
-import java.nio.charset.StandardCharsets;
 import java.nio.file.Files;
 import java.nio.file.Path;
 import java.util.Arrays;
 import java.util.Comparator;
 import java.util.function.IntUnaryOperator;
 
-/** What the tests of edges share: each one has a sentence of the document and an object of its own. */
+/** What the tests share: an object for each, and, where it looks at an edge, a sentence of the document. */
 abstract class Edges {
     /** The words of the document whose edge a test looks at; they must stand there just so. */
     @Retention(RetentionPolicy.RUNTIME)
@@ -39,13 +38,22 @@ abstract class Edges {
                 wrong++;
                 System.out.println(m.getName() + ": the document doesn't say: " + says.value());
             }
-            test = m;
-            x = new CourtVans();
+            begin(m);
             m.invoke(null);
             ran++;
         }
-        System.out.println(wrong == 0 ? ran + " edges hold" : wrong + " answers are not as due");
-        if (wrong != 0 || ran == 0) {
+        wrong += ran == 0 ? 1 : 0;
+        end(ran + " edges hold");
+    }
+
+    static void begin(Method m) {
+        test = m;
+        x = new CourtVans();
+    }
+
+    static void end(String ifAllIsAsDue) {
+        System.out.println(wrong == 0 ? ifAllIsAsDue : wrong + " answers are not as due");
+        if (wrong != 0) {
             System.exit(1);
         }
     }
@@ -63,12 +71,25 @@ abstract class Edges {
             return;
         }
         wrong++;
-        int line = 0;
-        for (StackTraceElement e : new Throwable().getStackTrace()) {
-            line = line == 0 && e.getMethodName().equals(test.getName()) ? e.getLineNumber() : line;
+        System.out.println(where() + with + ": answered " + got + ", due is " + want);
+        Says says = test.getAnnotation(Says.class);
+        if (says != null) {
+            System.out.println("    " + says.value());
         }
-        System.out.println(test.getName() + ", line " + line + with + ": answered " + got + ", due is " + want);
-        System.out.println("    " + test.getAnnotation(Says.class).value());
+    }
+
+    /** The lines of the test and of its helpers by which it came here. */
+    private static String where() {
+        StringBuilder b = new StringBuilder(test.getName());
+        for (StackTraceElement e : new Throwable().getStackTrace()) {
+            if (e.getClassName().equals(test.getDeclaringClass().getName())) {
+                b.append(", line ").append(e.getLineNumber());
+            }
+            if (e.getMethodName().equals(test.getName())) {
+                break;
+            }
+        }
+        return b.toString();
     }
 
     /** The call answers the same for each of some numbers. */
@@ -92,20 +113,23 @@ abstract class Edges {
         return 1440 * most + start;
     }
 
-    /** Feeds a text, and answers how many bytes there are. */
-    static int feed(String s) {
-        byte[] b = s.getBytes(StandardCharsets.ISO_8859_1);
-        int there = x.many(9);
-        for (int i = 0; i < b.length; i += 8) {
-            long eight = 0;
-            int n = Math.min(8, b.length - i);
-            for (int j = 0; j < n; j++) {
-                eight |= (b[i + j] & 255L) << 8 * j;
-            }
-            there += n;
-            due(x.feed(eight, n), there);
+    /** n signs of a text from a place on, as feed() takes them. */
+    static long eight(String s, int from, int n) {
+        long eight = 0;
+        for (int j = 0; j < n; j++) {
+            eight |= (s.charAt(from + j) & 255L) << 8 * j;
         }
-        return there;
+        return eight;
+    }
+
+    /** Feeds a text. */
+    static void feed(String s) {
+        int there = x.many(9);
+        for (int i = 0; i < s.length(); i += 8) {
+            int n = Math.min(8, s.length() - i);
+            there += n;
+            due(x.feed(eight(s, i, n), n), there);
+        }
     }
 
     static int text(String s) {

@@ -2,80 +2,23 @@ import java.lang.reflect.Constructor;
 import java.lang.reflect.Field;
 import java.lang.reflect.Method;
 import java.lang.reflect.Modifier;
-import java.nio.charset.StandardCharsets;
 
 /** Each promise by hand: ordinary calls, the edges that the document names, wrong calls. */
-public final class PromisesTest {
-    private static int wrong = 0;
-    private static String promise = "";
-    private static CourtVans x = new CourtVans();
-
+public final class PromisesTest extends Edges {
     private PromisesTest() {}
 
     public static void main(String[] args) throws Exception {
+        begin(PromisesTest.class.getDeclaredMethod("face"));
         face();
         for (int i = 1; i <= 53; i++) {
-            promise = "p" + i;
-            x = new CourtVans();
-            PromisesTest.class.getDeclaredMethod(promise).invoke(null);
+            Method promise = PromisesTest.class.getDeclaredMethod("p" + i);
+            begin(promise);
+            promise.invoke(null);
         }
-        System.out.println(wrong == 0 ? "all 53 promises hold" : wrong + " answers are not as due");
-        if (wrong != 0) {
-            System.exit(1);
-        }
-    }
-
-    private static void due(int got, int want) {
-        if (got != want) {
-            wrong++;
-            int line = new Throwable().getStackTrace()[1].getLineNumber();
-            System.out.println(promise + ", line " + line + ": answered " + got + ", due is " + want);
-        }
-    }
-
-    private static int open(int from, int till) {
-        return 1440 * from + till;
-    }
-
-    /** A DUE with a LENGTH. */
-    private static int due2(int length, int due) {
-        return 1440 * length + due;
-    }
-
-    /** Feeds a text and reads it. */
-    private static int text(String s) {
-        byte[] b = s.getBytes(StandardCharsets.ISO_8859_1);
-        for (int i = 0; i < b.length; i += 8) {
-            long eight = 0;
-            int n = Math.min(8, b.length - i);
-            for (int j = 0; j < n; j++) {
-                eight |= (b[i + j] & 255L) << 8 * j;
-            }
-            if (x.feed(eight, n) != i + n) {
-                throw new IllegalStateException();
-            }
-        }
-        return x.read();
-    }
-
-    /** JAIL 0, COURT 1, COURT 2, POLICE 3, all open all day; 60 minutes between all. */
-    private static void town() {
-        x.place(0, 20, 1, open(0, 1439));
-        x.place(1, 3, 2, open(0, 1439));
-        x.place(1, 6, 4, open(0, 1439));
-        x.place(2, 20, 1, open(0, 1439));
-    }
-
-    /** The town, and n men of JAIL 0 for COURT 1, DUE at 600, 10 minutes long. */
-    private static void men(int n) {
-        town();
-        for (int i = 0; i < n; i++) {
-            x.person(0, 0, 1, due2(10, 600));
-        }
+        end("all 53 promises hold");
     }
 
     private static void face() {
-        promise = "face";
         due(CourtVans.BAD, -1);
         due(CourtVans.FULL, -2);
         due(CourtVans.NONE, -3);
@@ -141,13 +84,13 @@ public final class PromisesTest {
         due(x.place(1, 1, 0, 0), -1);
         due(x.place(1, 1, 5, 0), -1);
         due(x.place(0, 1, 1, -1), -1);
-        due(x.place(0, 1, 1, open(1440, 1439)), -1);
-        due(x.place(0, 1, 1, open(5, 4)), -1);
+        due(x.place(0, 1, 1, hours(1440, 1439)), -1);
+        due(x.place(0, 1, 1, hours(5, 4)), -1);
         due(x.many(1), 0);
-        due(x.place(0, 20, 1, open(5, 5)), 0);
-        due(x.place(0, 0, 1, open(1439, 1439)), 1);
+        due(x.place(0, 20, 1, hours(5, 5)), 0);
+        due(x.place(0, 0, 1, hours(1439, 1439)), 1);
         due(x.place(1, 6, 4, 0), 2);
-        due(x.place(1, 0, 1, open(0, 1439)), 3);
+        due(x.place(1, 0, 1, hours(0, 1439)), 3);
         due(x.place(2, 20, 1, 0), 4);
         x.place(2, 1, 1, 0);
         x.place(2, 1, 1, 0);
@@ -203,24 +146,24 @@ public final class PromisesTest {
 
     static void p7() {
         town();
-        due(x.person(-1, 0, 1, due2(1, 0)), -1);
-        due(x.person(4, 0, 1, due2(1, 0)), -1);
-        due(x.person(0, 1, 1, due2(1, 0)), -1);
-        due(x.person(0, 4, 1, due2(1, 0)), -1);
-        due(x.person(0, 0, 0, due2(1, 0)), -1);
-        due(x.person(0, 0, 3, due2(1, 0)), -1);
-        due(x.person(0, 0, -1, due2(1, 0)), -1);
+        due(x.person(-1, 0, 1, heardFor(1, 0)), -1);
+        due(x.person(4, 0, 1, heardFor(1, 0)), -1);
+        due(x.person(0, 1, 1, heardFor(1, 0)), -1);
+        due(x.person(0, 4, 1, heardFor(1, 0)), -1);
+        due(x.person(0, 0, 0, heardFor(1, 0)), -1);
+        due(x.person(0, 0, 3, heardFor(1, 0)), -1);
+        due(x.person(0, 0, -1, heardFor(1, 0)), -1);
         due(x.person(0, 0, 1, 1439), -1);
-        due(x.person(0, 0, 1, due2(121, 0)), -1);
+        due(x.person(0, 0, 1, heardFor(121, 0)), -1);
         due(x.person(0, 0, 1, -1440), -1);
         due(x.person(0, 0, 1, -1), -1);
         due(x.many(2), 0);
-        due(x.person(3, 3, 2, due2(120, 1439)), 0);
+        due(x.person(3, 3, 2, heardFor(120, 1439)), 0);
         for (int i = 1; i < 12; i++) {
-            due(x.person(0, 0, 1, due2(1, 0)), i);
+            due(x.person(0, 0, 1, heardFor(1, 0)), i);
         }
-        due(x.person(0, 0, 1, due2(1, 0)), -2);
-        due(x.person(0, 1, 1, due2(1, 0)), -1);
+        due(x.person(0, 0, 1, heardFor(1, 0)), -2);
+        due(x.person(0, 1, 1, heardFor(1, 0)), -1);
         due(x.many(2), 12);
     }
 
@@ -257,7 +200,7 @@ public final class PromisesTest {
 
     static void p10() {
         men(2);
-        x.person(2, 0, 1, due2(1, 0));
+        x.person(2, 0, 1, heardFor(1, 0));
         due(x.foes(0, 1), 0);
         due(x.foes(0, 2), 1);
         due(x.foes(2, 0), 1);
@@ -288,7 +231,7 @@ public final class PromisesTest {
 
     static void p12() {
         town();
-        x.person(3, 3, 2, due2(120, 1439));
+        x.person(3, 3, 2, heardFor(120, 1439));
         int[] want = {3, 3, 2, 1439, 120, 0};
         for (int what = 0; what < 6; what++) {
             due(x.of(0, what), want[what]);
@@ -303,25 +246,25 @@ public final class PromisesTest {
 
     static void p13() {
         town();
-        due(x.van(1, 1, open(60, 0)), -1);
-        due(x.van(4, 1, open(60, 0)), -1);
-        due(x.van(0, 0, open(60, 0)), -1);
-        due(x.van(0, 7, open(60, 0)), -1);
-        due(x.van(0, 1, open(59, 1439)), -1);
-        due(x.van(0, 1, open(901, 0)), -1);
+        due(x.van(1, 1, hours(60, 0)), -1);
+        due(x.van(4, 1, hours(60, 0)), -1);
+        due(x.van(0, 0, hours(60, 0)), -1);
+        due(x.van(0, 7, hours(60, 0)), -1);
+        due(x.van(0, 1, hours(59, 1439)), -1);
+        due(x.van(0, 1, hours(901, 0)), -1);
         due(x.van(0, 1, -1), -1);
-        due(x.van(0, 1, open(60, 0)), 0);
-        due(x.van(3, 6, open(900, 1439)), 1);
-        due(x.van(0, 6, open(900, 0)), 2);
-        due(x.van(0, 6, open(900, 0)), -2);
-        due(x.van(1, 6, open(900, 0)), -1);
+        due(x.van(0, 1, hours(60, 0)), 0);
+        due(x.van(3, 6, hours(900, 1439)), 1);
+        due(x.van(0, 6, hours(900, 0)), 2);
+        due(x.van(0, 6, hours(900, 0)), -2);
+        due(x.van(1, 6, hours(900, 0)), -1);
         due(x.many(3), 3);
     }
 
     static void p14() {
         town();
         due(x.delay(0, 0, 0, 1), -1);
-        x.van(0, 1, open(60, 0));
+        x.van(0, 1, hours(60, 0));
         due(x.delay(0, -1, 0, 1), -1);
         due(x.delay(0, 1440, 0, 1), -1);
         due(x.delay(0, 0, 4, 1), -1);
@@ -338,11 +281,11 @@ public final class PromisesTest {
 
     static void p15() {
         town();
-        x.person(0, 0, 1, due2(10, 500));
-        x.person(0, 0, 2, due2(10, 480));
-        x.person(0, 3, 2, due2(10, 480));
+        x.person(0, 0, 1, heardFor(10, 500));
+        x.person(0, 0, 2, heardFor(10, 480));
+        x.person(0, 3, 2, heardFor(10, 480));
         due(x.route(0, 1, -1), -1);
-        x.van(0, 1, open(300, 420));
+        x.van(0, 1, hours(300, 420));
         // 420 to 480 and 540: by 1, 2 it is 0 + 60, by 2, 1 it is 0 + 40
         due(x.route(0, 3, -1), 40);
         due(x.route(0, 3, -2), 540);
@@ -371,12 +314,12 @@ public final class PromisesTest {
 
     private static void rideEdges() {
         x = new CourtVans();
-        x.place(0, 5, 1, open(430, 500));
-        x.place(1, 1, 1, open(495, 600));
-        x.place(1, 1, 1, open(0, 560));
-        x.person(0, 0, 1, due2(1, 490));
-        x.person(0, 0, 2, due2(1, 490));
-        x.van(0, 1, open(140, 420));
+        x.place(0, 5, 1, hours(430, 500));
+        x.place(1, 1, 1, hours(495, 600));
+        x.place(1, 1, 1, hours(0, 560));
+        x.person(0, 0, 1, heardFor(1, 490));
+        x.person(0, 0, 2, heardFor(1, 490));
+        x.van(0, 1, hours(140, 420));
         // it waits till 430, and at COURT 1 from 490 till 495
         due(x.route(0, 1, -1), 5);
         due(x.route(0, 1, -2), 495);
@@ -386,9 +329,9 @@ public final class PromisesTest {
         x.traffic(7, 1);
         // 491 and 551: 131 minutes from START
         due(x.route(0, 3, -2), 551);
-        x.van(0, 1, open(130, 420));
+        x.van(0, 1, hours(130, 420));
         due(x.route(1, 3, -2), -4);
-        x.van(0, 1, open(900, 501));
+        x.van(0, 1, hours(900, 501));
         due(x.route(2, 1, -2), -4);
         due(x.route(2, 1, 9), -4);
         lastMinute();
@@ -399,11 +342,11 @@ public final class PromisesTest {
     /** The last minute is open, at the PLACE and at the COURT. */
     private static void lastMinute() {
         x = new CourtVans();
-        x.place(0, 5, 1, open(0, 420));
-        x.place(1, 1, 1, open(0, 480));
-        x.person(0, 0, 1, due2(1, 480));
-        x.van(0, 1, open(60, 420));
-        x.van(0, 1, open(60, 421));
+        x.place(0, 5, 1, hours(0, 420));
+        x.place(1, 1, 1, hours(0, 480));
+        x.person(0, 0, 1, heardFor(1, 480));
+        x.van(0, 1, hours(60, 420));
+        x.van(0, 1, hours(60, 421));
         due(x.route(0, 1, -1), 0);
         due(x.route(1, 1, -1), -4);
         x.road(0, 1, 59);
@@ -415,9 +358,9 @@ public final class PromisesTest {
     private static void tieByLastArrival() {
         x = new CourtVans();
         town();
-        x.person(0, 0, 1, due2(1, 1400));
-        x.person(0, 0, 2, due2(1, 1400));
-        x.van(0, 2, open(900, 0));
+        x.person(0, 0, 1, heardFor(1, 1400));
+        x.person(0, 0, 2, heardFor(1, 1400));
+        x.van(0, 2, hours(900, 0));
         due(x.route(0, 3, 0), 1);
         x.road(0, 2, 59);
         due(x.route(0, 3, 0), 2);
@@ -426,23 +369,23 @@ public final class PromisesTest {
 
     private static void fiveCourts() {
         x = new CourtVans();
-        x.place(0, 5, 1, open(0, 1439));
+        x.place(0, 5, 1, hours(0, 1439));
         for (int c = 1; c <= 5; c++) {
-            x.place(1, 1, 1, open(0, 1439));
-            x.person(0, 0, c, due2(1, 1400));
+            x.place(1, 1, 1, hours(0, 1439));
+            x.person(0, 0, c, heardFor(1, 1400));
         }
-        x.van(0, 6, open(900, 0));
+        x.van(0, 6, hours(900, 0));
         due(x.route(0, 15, -2), 240);
         due(x.route(0, 31, -2), -4);
     }
 
     static void p16() {
         town();
-        x.person(0, 0, 1, due2(10, 600));
-        x.person(0, 0, 2, due2(10, 480));
-        x.person(0, 0, 1, due2(10, 600));
-        x.person(0, 0, 1, due2(10, 600));
-        x.van(0, 1, open(120, 420));
+        x.person(0, 0, 1, heardFor(10, 600));
+        x.person(0, 0, 2, heardFor(10, 480));
+        x.person(0, 0, 1, heardFor(10, 600));
+        x.person(0, 0, 1, heardFor(10, 600));
+        x.van(0, 1, hours(120, 420));
         due(x.arrival(0, 7, 0), 540);
         due(x.arrival(0, 7, 1), 480);
         due(x.arrival(0, 7, 2), 540);
@@ -460,7 +403,7 @@ public final class PromisesTest {
 
     static void p17() {
         men(3);
-        x.person(0, 3, 1, due2(1, 0));
+        x.person(0, 3, 1, heardFor(1, 0));
         due(x.riders(0), 7);
         due(x.riders(3), 8);
         x.wire(1, true);
@@ -475,17 +418,17 @@ public final class PromisesTest {
         due(x.plan(0), 0);
         due(x.plan(1), -1);
         due(x.plan(4), -1);
-        x.person(0, 0, 1, due2(10, 470));
-        x.person(0, 0, 2, due2(10, 480));
+        x.person(0, 0, 1, heardFor(10, 470));
+        x.person(0, 0, 2, heardFor(10, 480));
         due(x.plan(0), -3);
-        x.van(0, 2, open(300, 420));
+        x.van(0, 2, hours(300, 420));
         // 2 then 1: 0 + 70; 1 then 2: 10 + 60
         due(x.plan(0), 70);
-        x.van(0, 1, open(300, 420));
+        x.van(0, 1, hours(300, 420));
         due(x.plan(0), 10);
         due(x.vanOf(0), 0);
         due(x.vanOf(1), 1);
-        x.van(0, 1, open(300, 400));
+        x.van(0, 1, hours(300, 400));
         due(x.plan(0), 0);
         due(x.vanOf(0), 2);
         due(x.vanOf(1), 0);
@@ -497,11 +440,11 @@ public final class PromisesTest {
     private static void planEdges() {
         x = new CourtVans();
         men(8);
-        x.van(0, 4, open(300, 420));
+        x.van(0, 4, hours(300, 420));
         due(x.plan(0), -3);
-        x.van(0, 3, open(300, 420));
+        x.van(0, 3, hours(300, 420));
         due(x.plan(0), -3);
-        x.van(0, 1, open(300, 600));
+        x.van(0, 1, hours(300, 600));
         due(x.plan(0), 60);
         // the last one of eight is the latest, as he is in the latest VAN
         due(x.vanOf(7), 2);
@@ -510,7 +453,7 @@ public final class PromisesTest {
         x.bar(0, 1, true);
         due(x.plan(0), 60);
         due(x.vanOf(1), 1);
-        x.person(0, 0, 1, due2(10, 600));
+        x.person(0, 0, 1, heardFor(10, 600));
         due(x.plan(0), -2);
         x.wire(3, true);
         due(x.plan(0), 60);
@@ -522,11 +465,11 @@ public final class PromisesTest {
 
     static void p19() {
         men(2);
-        x.van(3, 2, open(300, 420));
+        x.van(3, 2, hours(300, 420));
         due(x.vanOf(0), -3);
-        x.van(0, 1, open(300, 420));
+        x.van(0, 1, hours(300, 420));
         due(x.vanOf(0), -3);
-        x.van(0, 1, open(300, 420));
+        x.van(0, 1, hours(300, 420));
         due(x.vanOf(0), 1);
         due(x.vanOf(1), 2);
         x.wire(0, true);
@@ -535,7 +478,7 @@ public final class PromisesTest {
         due(x.vanOf(2), -1);
         due(x.vanOf(-1), -1);
         for (int i = 2; i < 10; i++) {
-            x.person(0, 0, 1, due2(10, 600));
+            x.person(0, 0, 1, heardFor(10, 600));
         }
         due(x.vanOf(1), -2);
         due(x.vanOf(0), -4);
@@ -547,27 +490,27 @@ public final class PromisesTest {
         due(x.less(3), 0);
         due(x.less(1), -1);
         due(x.less(9), -1);
-        x.van(0, 2, open(300, 420));
+        x.van(0, 2, hours(300, 420));
         due(x.less(0), 1);
         x.bar(1, 2, true);
         due(x.less(0), 2);
-        x.van(0, 1, open(300, 420));
+        x.van(0, 1, hours(300, 420));
         due(x.less(0), 0);
         x.bar(0, 1, true);
         x.bar(0, 2, true);
         due(x.less(0), 1);
         for (int i = 3; i < 8; i++) {
-            x.person(0, 0, 1, due2(10, 600));
+            x.person(0, 0, 1, heardFor(10, 600));
         }
         // three of eight can ride, of whom 0 can't be with 1 or 2: the greatest ones ride
         due(x.less(0), 31);
-        x.person(0, 0, 1, due2(10, 600));
+        x.person(0, 0, 1, heardFor(10, 600));
         due(x.less(0), -2);
         x = new CourtVans();
         men(1);
-        x.place(1, 1, 1, open(0, 100));
-        x.person(0, 0, 4, due2(10, 600));
-        x.van(0, 2, open(300, 420));
+        x.place(1, 1, 1, hours(0, 100));
+        x.person(0, 0, 4, heardFor(10, 600));
+        x.van(0, 2, hours(300, 420));
         due(x.less(0), 2);
     }
 
@@ -575,12 +518,12 @@ public final class PromisesTest {
         men(2);
         due(x.bound(0), -3);
         due(x.bound(3), 0);
-        x.van(0, 1, open(300, 600));
+        x.van(0, 1, hours(300, 600));
         due(x.bound(0), 120);
-        x.van(0, 1, open(300, 550));
+        x.van(0, 1, hours(300, 550));
         due(x.bound(0), 20);
         due(x.plan(0), 70);
-        x.van(3, 1, open(300, 0));
+        x.van(3, 1, hours(300, 0));
         due(x.bound(0), 20);
         due(x.bound(1), -1);
         due(x.bound(4), -1);
@@ -589,11 +532,11 @@ public final class PromisesTest {
         x.wire(0, false);
         // BOUND asks for no PLAN: ten are not too many, nor are foes
         for (int i = 2; i < 10; i++) {
-            x.person(0, 0, 1, due2(10, 600));
+            x.person(0, 0, 1, heardFor(10, 600));
         }
         due(x.bound(0), 100);
-        x.place(1, 1, 1, open(0, 10));
-        x.person(0, 0, 4, due2(10, 600));
+        x.place(1, 1, 1, hours(0, 10));
+        x.person(0, 0, 4, heardFor(10, 600));
         due(x.bound(0), -3);
     }
 
@@ -601,8 +544,8 @@ public final class PromisesTest {
         men(2);
         due(x.prove(0), -3);
         due(x.prove(1), -1);
-        x.van(0, 1, open(300, 420));
-        x.van(0, 1, open(300, 430));
+        x.van(0, 1, hours(300, 420));
+        x.van(0, 1, hours(300, 430));
         due(x.prove(0), 2);
         due(x.many(7), 2);
         due(x.row(0, 2), 480);
@@ -611,11 +554,11 @@ public final class PromisesTest {
         due(x.many(7), 0);
         due(x.prove(0), 2);
         x.bar(0, 1, true);
-        x.person(0, 0, 1, due2(10, 600));
+        x.person(0, 0, 1, heardFor(10, 600));
         due(x.prove(0), -3);
         due(x.many(7), 2);
         for (int i = 3; i < 9; i++) {
-            x.person(0, 0, 1, due2(10, 600));
+            x.person(0, 0, 1, heardFor(10, 600));
         }
         due(x.prove(0), -2);
         due(x.many(7), 2);
@@ -623,10 +566,10 @@ public final class PromisesTest {
 
     static void p23() {
         town();
-        x.person(0, 3, 1, due2(10, 600));
-        x.person(0, 0, 1, due2(10, 600));
-        x.van(3, 1, open(300, 420));
-        x.van(0, 1, open(300, 420));
+        x.person(0, 3, 1, heardFor(10, 600));
+        x.person(0, 0, 1, heardFor(10, 600));
+        x.van(3, 1, hours(300, 420));
+        x.van(0, 1, hours(300, 420));
         x.prove(0);
         due(x.row(0, 0), 1);
         due(x.row(0, 1), 1);
@@ -639,7 +582,7 @@ public final class PromisesTest {
 
     static void p24() {
         men(1);
-        x.van(0, 1, open(300, 420));
+        x.van(0, 1, hours(300, 420));
         due(x.alterRow(0, 0, 1), -9);
         x.prove(0);
         due(x.alterRow(0, 2, Integer.MIN_VALUE), 480);
@@ -654,7 +597,7 @@ public final class PromisesTest {
 
     static void p25() {
         men(2);
-        x.van(0, 2, open(300, 420));
+        x.van(0, 2, hours(300, 420));
         due(x.drop(), -3);
         x.prove(0);
         due(x.drop(), 1);
@@ -666,9 +609,9 @@ public final class PromisesTest {
 
     static void p26() {
         men(3);
-        x.van(0, 2, open(300, 550));
-        x.van(0, 2, open(300, 540));
-        x.van(3, 2, open(300, 540));
+        x.van(0, 2, hours(300, 550));
+        x.van(0, 2, hours(300, 540));
+        x.van(3, 2, hours(300, 540));
         due(x.judge(0), -100);
         due(x.judge(1), -1);
         due(x.judge(4), -1);
@@ -744,14 +687,14 @@ public final class PromisesTest {
         due(x.held(2, 15, -1), 4);
         x.apart(0, 0, false);
         for (int i = 4; i < 10; i++) {
-            x.person(0, 0, 1, due2(10, 600));
+            x.person(0, 0, 1, heardFor(10, 600));
         }
         due(x.held(1, 511, -1), -2);
         due(x.held(1, 511, 9), -2);
         due(x.held(1, 255, -1), -4);
         due(x.held(1, 255, 9), -4);
         due(x.held(2, 255, -1), 2);
-        x.place(1, 0, 1, open(0, 1439));
+        x.place(1, 0, 1, hours(0, 1439));
         due(x.held(4, 0, -1), 0);
         due(x.held(4, 0, 1), -3);
         due(x.held(4, 1, -1), -4);
@@ -839,13 +782,13 @@ public final class PromisesTest {
     }
 
     static void p32() {
-        x.place(0, 5, 1, open(0, 1439));
-        x.place(1, 1, 1, open(0, 600));
-        x.person(0, 0, 1, due2(20, 700));
-        x.person(0, 0, 1, due2(30, 500));
-        x.person(0, 0, 1, due2(40, 500));
-        x.person(0, 0, 1, due2(1, 400));
-        x.person(0, 0, 1, due2(1, 1400));
+        x.place(0, 5, 1, hours(0, 1439));
+        x.place(1, 1, 1, hours(0, 600));
+        x.person(0, 0, 1, heardFor(20, 700));
+        x.person(0, 0, 1, heardFor(30, 500));
+        x.person(0, 0, 1, heardFor(40, 500));
+        x.person(0, 0, 1, heardFor(1, 400));
+        x.person(0, 0, 1, heardFor(1, 1400));
         due(x.heard(0, 0), -3);
         x.enter(0, 1, 530, 0);
         due(x.heard(0, 0), 540);
@@ -870,11 +813,11 @@ public final class PromisesTest {
 
     private static void hearingEdges() {
         x = new CourtVans();
-        x.place(0, 5, 1, open(0, 1439));
-        x.place(1, 1, 1, open(570, 600));
-        x.person(0, 0, 1, due2(30, 700));
-        x.person(0, 0, 1, due2(30, 700));
-        x.person(0, 0, 1, due2(30, 600));
+        x.place(0, 5, 1, hours(0, 1439));
+        x.place(1, 1, 1, hours(570, 600));
+        x.person(0, 0, 1, heardFor(30, 700));
+        x.person(0, 0, 1, heardFor(30, 700));
+        x.person(0, 0, 1, heardFor(30, 600));
         x.enter(1, 1, 570, 0);
         x.enter(0, 1, 570, 0);
         x.enter(2, 1, 571, 0);
@@ -883,14 +826,14 @@ public final class PromisesTest {
         due(x.heard(2, 0), 600);
         due(x.heard(1, 0), -3);
         x = new CourtVans();
-        x.place(0, 5, 1, open(0, 1439));
-        x.place(1, 1, 1, open(0, 539));
-        x.person(0, 0, 1, due2(30, 500));
+        x.place(0, 5, 1, hours(0, 1439));
+        x.place(1, 1, 1, hours(0, 539));
+        x.person(0, 0, 1, heardFor(30, 500));
         x.enter(0, 1, 500, 0);
         due(x.heard(0, 0), -3);
         x = new CourtVans();
         men(2);
-        x.person(0, 0, 2, due2(10, 300));
+        x.person(0, 0, 2, heardFor(10, 300));
         x.enter(2, 2, 540, 0);
         x.enter(2, 1, 540, 0);
         x.enter(0, 1, 700, 0);
@@ -1004,8 +947,8 @@ public final class PromisesTest {
     /** A man DUE at 600 who CAME at 650, and a VAN with DELAYS: van 5, road 10, van 20, then one that is too late. */
     private static void late() {
         men(2);
-        x.van(0, 1, open(300, 420));
-        x.van(0, 1, open(300, 420));
+        x.van(0, 1, hours(300, 420));
+        x.van(0, 1, hours(300, 420));
         x.delay(0, 650, 0, 5);
         x.delay(0, 100, 2, 10);
         x.delay(1, 100, 1, 240);
@@ -1086,12 +1029,12 @@ public final class PromisesTest {
     }
 
     static void p38() {
-        x.place(0, 2, 1, open(0, 700));
-        x.place(1, 2, 1, open(0, 1439));
-        x.place(2, 1, 1, open(661, 1439));
-        x.place(2, 9, 1, open(0, 1439));
+        x.place(0, 2, 1, hours(0, 700));
+        x.place(1, 2, 1, hours(0, 1439));
+        x.place(2, 1, 1, hours(661, 1439));
+        x.place(2, 9, 1, hours(0, 1439));
         for (int i = 0; i < 7; i++) {
-            x.person(0, 0, 1, due2(1, 0));
+            x.person(0, 0, 1, heardFor(1, 0));
         }
         for (int i = 0; i < 7; i++) {
             x.enter(i, 1, 500, 2);
@@ -1138,11 +1081,11 @@ public final class PromisesTest {
     /** Those who are AT a PLACE take its room, but for those who leave; as KNOWN NOW. */
     private static void nightRooms() {
         x = new CourtVans();
-        x.place(0, 1, 1, open(0, 1439));
-        x.place(1, 2, 1, open(0, 1439));
-        x.place(2, 1, 1, open(0, 1439));
-        x.person(0, 0, 1, due2(1, 0));
-        x.person(0, 0, 1, due2(1, 0));
+        x.place(0, 1, 1, hours(0, 1439));
+        x.place(1, 2, 1, hours(0, 1439));
+        x.place(2, 1, 1, hours(0, 1439));
+        x.person(0, 0, 1, heardFor(1, 0));
+        x.person(0, 0, 1, heardFor(1, 0));
         due(x.night(1, 1, 600, 0), 2);
         due(x.night(1, 3, 600, -1), 1);
         due(x.night(1, 3, 600, 0), 0);
@@ -1317,7 +1260,7 @@ public final class PromisesTest {
 
     static void p47() {
         men(2);
-        x.van(0, 1, open(60, 0));
+        x.van(0, 1, hours(60, 0));
         x.thing(0, 0);
         due(x.shelf(4, 4, 0), -1);
         due(x.shelf(-1, 4, 0), -1);
@@ -1352,9 +1295,9 @@ public final class PromisesTest {
     static void p48() {
         town();
         for (int g = 0; g < 4; g++) {
-            x.person(g, 0, 1, due2(1, 0));
+            x.person(g, 0, 1, heardFor(1, 0));
         }
-        x.van(0, 1, open(60, 0));
+        x.van(0, 1, hours(60, 0));
         x.thing(0, 0);
         x.thing(0, 0);
         int[][] on = {{0, 0, 1}, {0, 1, 2}, {0, 2, 3}, {0, 3, 1}, {1, 0, 4}, {2, 0, 5}, {2, 1, 6}};
@@ -1400,9 +1343,9 @@ public final class PromisesTest {
     static void p49() {
         town();
         for (int g = 0; g < 4; g++) {
-            x.person(g, 0, 1, due2(1, g == 3 ? 3 : 100));
+            x.person(g, 0, 1, heardFor(1, g == 3 ? 3 : 100));
         }
-        x.van(0, 6, open(60, 0));
+        x.van(0, 6, hours(60, 0));
         for (int t = 0; t < 4; t++) {
             x.thing(t == 3 ? 3 : 0, 0);
         }
@@ -1514,7 +1457,7 @@ public final class PromisesTest {
     static void p51() {
         men(2);
         x.minutes(7);
-        x.van(0, 2, open(300, 420));
+        x.van(0, 2, hours(300, 420));
         x.delay(0, 1, 1, 1);
         x.delay(0, 1, 1, 1);
         x.enter(0, 0, 0, 0);
@@ -1539,11 +1482,11 @@ public final class PromisesTest {
         due(x.keep(), 1);
         men(1);
         due(x.keep(), 1);
-        x.person(0, 0, 1, due2(1, 1));
+        x.person(0, 0, 1, heardFor(1, 1));
         x.again();
         due(x.many(2), 1);
         // what was kept isn't what goes on
-        x.person(0, 0, 1, due2(1, 1));
+        x.person(0, 0, 1, heardFor(1, 1));
         x.again();
         due(x.many(2), 1);
     }
@@ -1551,7 +1494,7 @@ public final class PromisesTest {
     static void p53() {
         due(x.again(), -3);
         men(2);
-        x.van(0, 2, open(300, 420));
+        x.van(0, 2, hours(300, 420));
         x.thing(0, 3);
         text("free 1;");
         x.keep();
@@ -1559,11 +1502,11 @@ public final class PromisesTest {
         x.place(0, 1, 1, 0);
         x.road(0, 1, 5);
         x.traffic(3, 5);
-        x.person(1, 0, 1, due2(1, 1));
+        x.person(1, 0, 1, heardFor(1, 1));
         x.apart(0, 0, true);
         x.bar(0, 1, true);
         x.wire(0, true);
-        x.van(0, 1, open(300, 420));
+        x.van(0, 1, hours(300, 420));
         x.delay(0, 1, 1, 1);
         x.enter(0, 1, 1, 1);
         x.thing(0, 0);

@@ -232,11 +232,8 @@ public final class RandomRunsTest {
             b.replace(at, Math.min(b.length(), at + random.nextInt(4)), WORDS[random.nextInt(WORDS.length)]);
         }
         for (int i = 0; i < b.length(); i += 8) {
-            long eight = 0;
             int n = Math.min(8, b.length() - i);
-            for (int j = 0; j < n; j++) {
-                eight |= (long) b.charAt(i + j) << 8 * j;
-            }
+            long eight = Edges.eight(b.toString(), i, n);
             due("feed(" + eight + ", " + n + ")", real.feed(eight, n), model.feed(eight, n));
         }
     }

@@ -7,10 +7,7 @@ import java.util.Map;
  * A refused call changes nothing, nor does one that only asks: what an object answers to all questions is the same with
  * and without it. Each call is tried on a new object, since the questions take most of its 512 calls.
  */
-public final class RefusalsTest {
-    private static final int MIN = Integer.MIN_VALUE;
-    private static final int MAX = Integer.MAX_VALUE;
-
+public final class RefusalsTest extends Edges {
     private interface Call {
         int on(CourtVans x);
     }
@@ -41,12 +38,8 @@ public final class RefusalsTest {
 
     private static void feed(CourtVans x, String s) {
         for (int i = 0; i < s.length(); i += 8) {
-            long eight = 0;
             int n = Math.min(8, s.length() - i);
-            for (int j = 0; j < n; j++) {
-                eight |= (s.charAt(i + j) & 255L) << 8 * j;
-            }
-            x.feed(eight, n);
+            x.feed(eight(s, i, n), n);
         }
     }
 
