@@ -488,6 +488,15 @@ public final class EdgesOfHostTest extends Edges {
         x.shelf(0, THING, 3);
         all(-15, n -> x.act(0, OWES, n), MIN, 0, MAX);
         trace(71, 12);
+        // a VAN parts by its number less its SEATS, whatever x becomes ahead of that
+        for (int v = 0; v < 3; v++) {
+            x.van(0, Math.max(1, v), starts(60, 0));
+        }
+        for (int v = 1; v < 3; v++) {
+            x.shelf(0, VAN, v);
+            all(-15, n -> x.act(0, OWES, n), MIN, -v, 0, MAX);
+            trace(51, 12);
+        }
         // one apart it is a number, also where that is -15
         x.person(0, 0, 1, heardFor(1, 3));
         x.shelf(0, PERSON, 4);
